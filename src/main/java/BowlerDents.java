@@ -957,8 +957,11 @@ public final class BowlerDents {
         boolean isClause(City city) {
             if (isSign('r')) {
                 int rub = isWord("ub ") ? number() : -1;
+                if (rub < 0) {
+                    return false;
+                }
                 city.rub = rub;
-                return rub >= 0;
+                return true;
             }
             boolean isFirm = isSign('f');
             if (!isFirm && !isSign('w')) {

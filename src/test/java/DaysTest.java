@@ -99,6 +99,19 @@ public final class DaysTest {
         Due.due(13, "no days", x.on(0, 10), 50);
         Due.due(13, "60 days", x.on(60, 20), 60);
         Due.due(13, "nothing changed", x.told(0) + x.told(2) + x.of(0, 3), 0);
+        BowlerDents clerk = Due.with(1, 7, 0, 6, 0, 0);
+        clerk.row(1, 0, 9);
+        Due.saying(clerk, 10, 1, 0);
+        clerk.saying(1, 1);
+        clerk.saying(1, 1);
+        clerk.saying(1, 1);
+        Due.saying(clerk, 10, 1, 1);
+        Due.due(13, "a clerk's v", clerk.on(1, 30), 3);
+        Due.due(13, "a told one's row", clerk.on(1, 31), 5);
+        Due.city(clerk, "firm 2 d=0");
+        Due.due(13, "by the city", clerk.on(1, 30), 1);
+        clerk.pass(1);
+        Due.due(13, "by the day", clerk.on(10, 30), 1 + 9 * 3 + 1);
         int[] noWhat = {-1, 1, 9, 12, 15, 16, 19, 22, 32, 40, -10, 100, Integer.MIN_VALUE, Integer.MAX_VALUE};
         for (int what : noWhat) {
             Due.due(13, "what " + what, x.on(3, what), -1);
@@ -158,6 +171,9 @@ public final class DaysTest {
         x.aim(0, 1);
         Due.due(14, "it stays away from the other saying", x.best(5, 11), 2);
         Due.due(14, "nothing changed", x.phrase(1, 2), 1);
+        BowlerDents clerks = Due.with(0, 0, 0, 1, 9, 0);
+        Due.saying(clerks, 9, 1, 0);
+        Due.due(14, "a clerk's v", clerks.best(20, 10), 1);
         BowlerDents safe = Due.with(0, 0, 99, 0, 0, 99);
         Due.saying(safe, 1, 1, 1);
         Due.due(14, "all alike", safe.best(20, 10), 0);

@@ -85,6 +85,14 @@ public final class HandTest {
         x.ache(0, 2, false);
         x.mend(0, 0);
         Due.due(17, "from the day that is now", x.can(0, 1), 5);
+        x.ache(-1, 0, true);
+        x.aim(0, -1);
+        Due.saying(x, 5, 3, 0);
+        x.ache(0, 2, true);
+        Due.due(17, "it strikes on day 3", x.can(0, 0), 0);
+        x.ache(-1, 0, true);
+        x.ache(0, 3, false);
+        Due.due(17, "it has struck on day 3", x.can(0, 0), 5);
     }
 
     private static void odds() {
@@ -194,6 +202,12 @@ public final class HandTest {
         x.plan(0, 0);
         Due.due(21, "at none: hurt", x.ends(0), 0);
         Due.due(21, "at none: cover", x.ends(1), 146);
+        x.plan(-1, 0);
+        x.plan(2, 0);
+        Due.due(21, "at none, not healed", x.ends(0), 18);
+        x.plan(0, 0);
+        Due.due(21, "at none, a day", x.ends(0), 18);
+        Due.due(21, "at none, not worn", x.ends(1), 57);
         Due.due(21, "what 2", x.ends(2), -1);
         Due.due(21, "what -1", x.ends(-1), -1);
         Due.due(21, "nothing changed", x.told(2), 18);

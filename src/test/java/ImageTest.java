@@ -24,7 +24,10 @@ public final class ImageTest {
         int hurt = x.of(0, 4);
         Due.due(26, "no image", x.undo(), -3);
         Due.due(25, "two", x.image(), 2);
-        x.wearer(4, 9, 90);
+        x.wearer(6, 9, 90);
+        for (int part = 0; part < 4; part++) {
+            x.row(2, part, 9);
+        }
         Due.saying(x, 60, 1, 2);
         x.row(0, 2, 1);
         x.aim(0, 1);
@@ -46,7 +49,9 @@ public final class ImageTest {
         Due.due(26, "at none", x.phrase(1, 2), Due.UNMET);
         Due.due(26, "a new third", x.wearer(6, 1, 1), 2);
         Due.due(26, "is undented", x.of(2, 3) + x.of(2, 4), 0);
-        Due.due(26, "its row is 0", x.row(2, 2, 0), 0);
+        for (int part = 0; part < 4; part++) {
+            Due.due(26, "its row is 0", x.row(2, part, 0), 0);
+        }
         Due.due(26, "a new saying", x.saying(1, 1), 2);
         Due.due(26, "is at none", x.phrase(2, 2), Due.UNMET);
         Due.due(26, "undo again", x.undo(), 2);

@@ -71,6 +71,9 @@ public final class TapesTest {
         Due.due(31, "beyond", x.item(5, 60, 7), -13);
         Due.due(31, "again", x.tape(5, 3, 60), 1);
         Due.due(31, "all 0 again", x.read(5, 59), 0);
+        x.item(5, 0, 7);
+        x.tape(5, 3, 1);
+        Due.due(31, "item 0 is 0 again", x.read(5, 0), 0);
         Due.due(31, "n 0", x.tape(5, 0, 0), 1);
         Due.due(31, "no item", x.item(5, 0, 1), -13);
         Due.due(31, "nothing, n does not matter", x.tape(5, -1, -99), 1);
@@ -153,7 +156,11 @@ public final class TapesTest {
         fill(x, 1, 2, 6, 7, 8);
         fill(x, 2, 1, 9, 9, 9);
         Due.due(34, "tape -1", x.shift(-1, 0, 4, 0, 1), -1);
-        Due.due(34, "tape 6", x.shift(4, 0, 6, 0, 1), -1);
+        Due.due(34, "tape 6", x.shift(6, 0, 4, 0, 1), -1);
+        Due.due(34, "other 6", x.shift(4, 0, 6, 0, 1), -1);
+        Due.due(34, "other -1", x.shift(4, 0, -1, 0, 1), -1);
+        Due.due(34, "tape 5 holds nothing", x.shift(5, 0, 0, 0, 1), -11);
+        Due.due(34, "other 5 holds nothing", x.shift(0, 0, 5, 0, 1), -11);
         Due.due(34, "nothing to take", x.shift(4, 0, 2, 0, -1), -11);
         Due.due(34, "nothing to come to", x.shift(0, 0, 4, 0, -1), -11);
         Due.due(34, "unlike sorts", x.shift(0, 0, 2, 0, -1), -12);

@@ -15,6 +15,7 @@ public final class WearersTest {
         faults();
         cities();
         clauses();
+        coverByTen();
         told();
         Due.end();
     }
@@ -149,6 +150,19 @@ public final class WearersTest {
         Due.due(3, "another's row fails", x.of(0, 6), 0);
         Due.due(3, "another's row fails: least", x.of(0, 7), Due.UNMET);
         x.see(-1, 0, 0);
+        x.pass(1);
+        x.aim(0, -1);
+        x.mend(0, 50);
+        Due.saying(x, 1, 3, 0);
+        x.see(0, 2, 10);
+        Due.due(3, "not yet on day 2", x.of(0, 7), 10);
+        x.see(-1, 0, 0);
+        x.see(0, 3, 10);
+        Due.due(3, "on day 3", x.of(0, 7), 13);
+        Due.due(3, "on day 3: how many", x.of(0, 6), 1);
+        x.aim(1, -1);
+        x.aim(0, 0);
+        x.see(-1, 0, 0);
         x.see(0, 12, 9);
         Due.due(3, "twelve days", x.of(0, 7), 45);
         Due.due(3, "nothing changed", x.of(0, 2), 50);
@@ -248,6 +262,14 @@ public final class WearersTest {
         Due.due(10, "no city came", x.count(2), 0);
     }
 
+    /** Signs of a longer text that was before stand no more. */
+    private static void staleSigns(String before, String text) {
+        BowlerDents x = new BowlerDents();
+        Due.city(x, before);
+        Due.due(10, "city() of " + text + " after " + before, Due.city(x, text), 0);
+        Due.due(11, "rub of " + text, x.told(1), text.startsWith("rub") ? 1 : 3);
+    }
+
     private static void good(String text) {
         Due.due(10, "city() of " + text, Due.city(new BowlerDents(), text), 0);
     }
@@ -292,7 +314,30 @@ public final class WearersTest {
         fault("firm 1 !!!!!p=1", 11);
         fault("firm 1 !(!(!p=1))", 11);
         fault("firm 1 (p=1)|((!(!(p=1))))", 17);
+        fault("fir 1 p=1", 3);
+        fault("fi k=1", 2);
+        fault("fi1 p=1", 2);
+        fault("ru1", 2);
+        fault("firm  p=1", 5);
+        fault("firm 1 <1", 7);
+        fault("firm 1 5", 7);
+        fault("firm 1 p5", 8);
+        fault("FIRM 1 p=1", 0);
+        fault(" rub 1", 0);
+        fault("rub -1", 4);
         fault("rub 1;rub 1;rub 1;rub 1;rub 1;rub 1;rub 1;rub 1;rub 1;rub 1;rub 1", 59);
+        fault("rub 1;rub 1;rub 1;rub 1;rub 1;rub 1;rub 1;rub 1;rub 1;rub 1x", 59);
+        String long97 = "firm 1 p=1" + "|p=1".repeat(21) + "|!p";
+        fault(long97, 97);
+        fault(long97 + "=", 98);
+        good(long97 + "=1");
+        good(long97 + "=12");
+        fault(long97 + "=1&", 100);
+        fault(long97 + "=1;", 100);
+        staleSigns("rub 15x", "rub 1");
+        staleSigns("firm 1 p=1&k=1&&", "firm 1 p=1");
+        staleSigns("firm 1 p=1|k=1||", "firm 1 p=1");
+        staleSigns("firm 1 p=1;rub 2;;", "firm 1 p=1");
         good("rub 1;rub 1;rub 1;rub 1;rub 1;rub 1;rub 1;rub 1;rub 1;rub 1");
         good("firm 1 ((((p=1))))|!!!!p=1&(!p>0)");
         good("weak 07 (p=1|k<2)&!(v>99&s=0);rub 00;firm 99 c=5|d=9");
@@ -312,6 +357,7 @@ public final class WearersTest {
         Due.due(10, "five", x.count(2), 5);
         Due.due(10, "city 5, without rub", Due.city(x, "firm 1 p=0"), 5);
         Due.due(11, "rub without one", x.told(1), 3);
+        Due.due(10, "nothing is left of the fault", x.of(0, 10), 11);
         Due.feed(x, "oops");
         Due.due(10, "FULL", x.city(), -4);
         Due.due(10, "the text stays", x.count(7), 4);
@@ -345,6 +391,20 @@ public final class WearersTest {
         clause("firm 20 c=53", 17);
         clause("firm 20 d=3", 37);
         clause("firm 20 d=13", 17);
+        clause("firm 20 d>2", 37);
+        clause("firm 20 d>3", 17);
+        clause("firm 20 k<2", 37);
+        clause("firm 20 k>1", 17);
+        clause("firm 20 v<8", 37);
+        clause("firm 20 v>6", 37);
+        clause("firm 20 s<3", 37);
+        clause("firm 20 s>1", 37);
+        clause("firm 20 c<6", 37);
+        clause("firm 20 c>4", 37);
+        clause("firm 20 d<4", 37);
+        clause("firm 20 p=1&(k=1&v=7)", 37);
+        clause("firm 20 p=9|(k=9|v=7)", 37);
+        clause("firm 20 p=1&(k=9|v=7)", 37);
         clause("firm 20 !p=1", 17);
         clause("firm 20 !p=2", 37);
         clause("firm 20 p=1|k=9&v=9", 37);
@@ -356,6 +416,15 @@ public final class WearersTest {
         clause("firm 20 p=9|k=9|v=7", 37);
         clause("firm 20 !(p=1|k=9)|!(v=9|!(s=2))", 37);
         clause("firm 20 p=1;weak 5 k=1;firm 2 v=9;firm 1 s=2", 33);
+    }
+
+    private static void coverByTen() {
+        BowlerDents x = Due.with(0, 0, 99, 0, 0, 59, 0, 0, 60);
+        x.saying(0, 1);
+        Due.city(x, "firm 20 c=9;firm 30 c=5");
+        Due.due(10, "cover 99", x.of(0, 10), 39);
+        Due.due(10, "cover 59", x.of(1, 10), 41);
+        Due.due(10, "cover 60", x.of(2, 10), 12);
     }
 
     private static void told() {
