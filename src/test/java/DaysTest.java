@@ -10,6 +10,7 @@ public final class DaysTest {
         change();
         aim();
         bestRefused();
+        full();
         Due.end();
     }
 
@@ -196,5 +197,25 @@ public final class DaysTest {
         Due.due(14, "aim of 0", x.best(0, 10), -2);
         Due.due(14, "aim of 21", x.best(21, 10), -2);
         Due.due(14, "aim of 20", x.best(20, 10), 1);
+    }
+
+    /** As many wearers and sayings as there can be. */
+    private static void full() {
+        BowlerDents x = Due.with(0, 0, 10, 0, 0, 20, 0, 0, 30, 0, 0, 40, 0, 0, 50, 0, 0, 60);
+        for (int s = 0; s < 8; s++) {
+            Due.saying(x, 13, s + 1, 5 - s % 6);
+        }
+        // guards 2, 4, 6, 8, 10, 12 by wearer; 5 and 4 are struck twice on day 0, by 57 and 47 the second time
+        Due.due(14, "mend all", x.best(1, 0), 63);
+        Due.due(13, "hurt of all", x.on(1, 0), 11 + 9 + 7 + 5 + 3 + 4 + 1 + 2);
+        Due.due(14, "those struck twice have the most", x.best(1, 1), Due.UNMET);
+        Due.due(14, "the firmest for the last", x.best(1, 17), 5);
+        Due.due(11, "all strike", x.told(4), 255);
+        Due.due(11, "cover of all", x.told(3), 210);
+        Due.due(18, "odds: above", x.odds(7, 0, 1, 0), 1);
+        // 210 less 8 times 3, by 6
+        Due.due(19, "mean", x.mean(1, 0), 31);
+        x.mend(5, 0);
+        Due.due(14, "the two that gain most", x.best(1, 1), 35);
     }
 }
