@@ -62,7 +62,9 @@ public final class AgainstPlainTest {
     private boolean goes(int run) {
         boolean isBusy = run % 4 != 3;
         for (int i = 0; i < CALLS; i++) {
-            int group = isBusy && i < 20 ? from(0, 0, 0, 1) : from(0, 1, 2, 2, 3, 4, 5, 6, 7);
+            // few texts and days, so that covers and hurts are seldom all 0 or all at their most
+            int group = isBusy && i < 40 ? from(0, 0, 0, 0, 0, 1) : from(0, 2, 2, 2, 2, 3, 3, 4, 5, 6);
+            group = group == 6 && below(3) == 0 ? 7 : group == 4 && below(12) == 0 ? 1 : group;
             String call = next(group);
             calls.add(call + " = " + got);
             if (got != want) {
@@ -166,7 +168,7 @@ public final class AgainstPlainTest {
         for (int i = 0; i < clauses; i++) {
             s.append(i > 0 ? ";" : "");
             if (clauses > 8 || below(4) == 0) {
-                s.append("rub ").append(number());
+                s.append("rub ").append(below(3) == 0 ? number() : "" + below(6));
             } else {
                 s.append(below(2) == 0 ? "firm " : "weak ").append(number()).append(' ').append(either(0));
             }
@@ -220,7 +222,7 @@ public final class AgainstPlainTest {
             case 0:
             case 1:
                 a = about(0, 5);
-                b = about(0, 17);
+                b = below(2) == 0 ? 5 + below(3) : about(0, 17);
                 both(x.of(a, b), plain.of(a, b));
                 return "of " + a + " " + b;
             case 2:
@@ -263,7 +265,7 @@ public final class AgainstPlainTest {
     }
 
     private String hand() {
-        int a = below(5) == 0 ? -1 : about(0, 5);
+        int a = below(3) == 0 ? -1 : about(0, 5);
         int b = about(0, 12);
         int c;
         switch (below(8)) {
@@ -307,10 +309,15 @@ public final class AgainstPlainTest {
                 both(x.image(), plain.image());
                 return "image";
             case 1:
-                both(x.undo(), plain.undo());
-                return "undo";
+                if (below(3) == 0) {
+                    both(x.undo(), plain.undo());
+                    return "undo";
+                }
+                a = about(0, 60);
+                both(x.pass(a), plain.pass(a));
+                return "pass " + a;
             default:
-                a = below(2) == 0 ? below(4) : about(0, 60);
+                a = below(3);
                 both(x.pass(a), plain.pass(a));
                 return "pass " + a;
         }
