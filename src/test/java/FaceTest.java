@@ -26,6 +26,9 @@ public final class FaceTest {
     private static final String[] FORBIDDEN = {"throw", "throws", "try", "catch", "finally", "synchronized",
         "assert", "import", "package", "->", "::", "strictfp", "native", "volatile", "transient", "var", "record"};
 
+    private static final List<String> LIBRARY =
+        List.of("System.arraycopy", "Math.max", "Math.min", "Integer.MAX_VALUE", "Long.MIN_VALUE");
+
     private final List<String> faults = new ArrayList<>();
 
     public static void main(String[] args) throws IOException {
@@ -90,6 +93,9 @@ public final class FaceTest {
         for (String call : FACE) {
             face.add(call.substring(call.indexOf(' ') + 1, call.indexOf('(')));
         }
+        for (Method m : BowlerDents.class.getDeclaredMethods()) {
+            isSo(!Modifier.isPrivate(m.getModifiers()) || !face.contains(m.getName()), m + " bears a public name");
+        }
         Class<?>[] classes = BowlerDents.class.getDeclaredClasses();
         isSo(classes.length < 12, "too many classes");
         for (Class<?> c : classes) {
@@ -112,6 +118,10 @@ public final class FaceTest {
             isSo(!Pattern.compile(around + word + around).matcher(code).find(), "'" + word + "' stands in it");
         }
         isSo(!code.contains("\"\" +") && !code.contains("+ \"\""), "texts are joined by +");
+        Matcher library = Pattern.compile("\\b(System|Math|Integer|Long|Arrays)\\.(\\w+)").matcher(code);
+        while (library.find()) {
+            isSo(LIBRARY.contains(library.group()), library.group() + " is not of the library that the language has");
+        }
         everyMethod(code);
     }
 
