@@ -21,11 +21,10 @@ public final class BowlerDents {
     private static final int ALL = -1;
 
     private final City[] cities = new City[MOST_CITIES];
-    private final City bare = new City();
     private final Reader reader = new Reader();
-    private final World now = new World(bare);
-    private final World trial = new World(bare);
-    private final World imageWorld = new World(bare);
+    private final World now = new World();
+    private final World trial = new World();
+    private final World imageWorld = new World();
     private final Hand hand = new Hand();
     private final Hand imageHand = new Hand();
     private final Trail trail = new Trail();
@@ -584,14 +583,14 @@ public final class BowlerDents {
     }
 
     private int bestTarget(int saying, int n) {
-        int least = Integer.MAX_VALUE;
+        int least = 0;
         int found = UNMET;
         for (int p = 0; p < now.wearerCount; p++) {
             trial.become(now);
             trial.sayings[saying].target = p;
             trial.go(n, ALL);
             int hurt = trial.hurtOfAll();
-            if (hurt < least) {
+            if (found == UNMET || hurt < least) {
                 least = hurt;
                 found = p;
             }
@@ -739,10 +738,10 @@ public final class BowlerDents {
         int wearerCount = 0;
         int sayingCount = 0;
         int day = 0;
-        City city;
+        /** At first one without CLAUSES. */
+        City city = new City();
 
-        World(City bare) {
-            city = bare;
+        World() {
             for (int p = 0; p < wearers.length; p++) {
                 wearers[p] = new Wearer(p);
             }
